@@ -1,0 +1,161 @@
+import java.io.IOException;
+import java.lang.reflect.Constructor;
+import java.lang.reflect.Field;
+import java.lang.reflect.Method;
+import java.lang.reflect.Modifier;
+import java.nio.file.Files;
+import java.nio.file.Path;
+import java.util.ArrayList;
+import java.util.Arrays;
+import java.util.List;
+import java.util.Set;
+import java.util.TreeSet;
+import java.util.regex.Matcher;
+import java.util.regex.Pattern;
+
+/** The rules of LANGUAGE.md that a program can look at, and the face of the document. */
+public final class LanguageTest {
+    private static final Check CHECK = new Check("LanguageTest");
+    private static final List<String> FACE = List.of(
+        "int name(int,int,int)", "long points()", "int value(long,int)", "long number(long)",
+        "int distance(long,long)", "int trial(int,int)", "int guess(int,int,int)", "long forecast(long,int,int)",
+        "int score(int,int,boolean)", "int report(int,int,int)", "int told(int,int)", "long point(int)",
+        "int reported(int,int)", "int best()", "int bracket(int,int,int,int)", "int result(int,int,boolean)",
+        "int halve()", "int round(int)", "long cost()", "int plan(int,int,int,int)", "int folds(int,int,int,int)",
+        "int fold(int,int)", "int use(int,int)", "int used(int,int,int)");
+
+    public static void main(String[] args) throws IOException {
+        String path = System.getenv().getOrDefault("TRIAL_SEARCH_SOURCE", "src/main/java/TrialSearch.java");
+        String source = withoutComments(Files.readString(Path.of(path)));
+        face();
+        constants();
+        classesInside();
+        membersOfAll();
+        words(source);
+        objectsOnlyInConstructors(source);
+        methodsAreShort(source);
+        CHECK.end();
+    }
+
+    private static String withoutComments(String source) {
+        return source.replaceAll("(?s)/\\*.*?\\*/", "").replaceAll("//[^\n]*", "");
+    }
+
+    private static void face() {
+        Set<String> seen = new TreeSet<>();
+        for (Method method : TrialSearch.class.getDeclaredMethods()) {
+            if (!Modifier.isPrivate(method.getModifiers())) {
+                CHECK.holds("rule 1: public: " + method, method.getModifiers() == Modifier.PUBLIC);
+                String text = method.toString().replace("public ", "").replace("TrialSearch.", "");
+                seen.add(text);
+            }
+        }
+        CHECK.holds("rule 1: the methods of the face, seen " + seen, seen.equals(new TreeSet<>(FACE)));
+        CHECK.holds("rule 1: public and final",
+            TrialSearch.class.getModifiers() == (Modifier.PUBLIC | Modifier.FINAL));
+        Constructor<?>[] made = TrialSearch.class.getDeclaredConstructors();
+        CHECK.holds("rule 1: one public constructor", made.length == 1 && made[0].getModifiers() == Modifier.PUBLIC
+            && made[0].getParameterCount() == 0);
+    }
+
+    private static void constants() {
+        CHECK.due("BAD", TrialSearch.BAD, -1);
+        CHECK.due("NONE", TrialSearch.NONE, -2);
+        CHECK.due("NOT", TrialSearch.NOT, -3);
+        CHECK.due("FULL", TrialSearch.FULL, -4);
+        List<String> open = new ArrayList<>();
+        for (Field field : TrialSearch.class.getDeclaredFields()) {
+            if (!Modifier.isPrivate(field.getModifiers())) {
+                open.add(field.toString());
+            }
+        }
+        CHECK.due("rule 1: constants that are not private", open.size(), 4);
+    }
+
+    private static void classesInside() {
+        Class<?>[] inside = TrialSearch.class.getDeclaredClasses();
+        CHECK.holds("rule 11: at most twelve classes", inside.length < 12);
+        for (Class<?> one : inside) {
+            CHECK.holds("rule 1: static: " + one, Modifier.isStatic(one.getModifiers()));
+            CHECK.holds("rule 1: private or package-visible: " + one,
+                !Modifier.isPublic(one.getModifiers()) && !Modifier.isProtected(one.getModifiers()));
+        }
+    }
+
+    private static void membersOfAll() {
+        List<Class<?>> all = new ArrayList<>(Arrays.asList(TrialSearch.class.getDeclaredClasses()));
+        all.add(TrialSearch.class);
+        for (Class<?> one : all) {
+            int fields = 0;
+            for (Field field : one.getDeclaredFields()) {
+                boolean isStatic = Modifier.isStatic(field.getModifiers());
+                fields += isStatic ? 0 : 1;
+                CHECK.holds("rule 5: final: " + field, !isStatic || Modifier.isFinal(field.getModifiers()));
+            }
+            CHECK.holds("rule 11: some twenty fields: " + one, fields <= 20);
+            for (Method method : one.getDeclaredMethods()) {
+                CHECK.holds("rule 11: seven parameters: " + method, method.getParameterCount() <= 7);
+                CHECK.holds("rule 1: not the name of a public one: " + method,
+                    Modifier.isPublic(method.getModifiers()) || !isFaceName(method.getName()));
+            }
+        }
+    }
+
+    private static boolean isFaceName(String name) {
+        for (String method : FACE) {
+            if (method.contains(" " + name + "(")) {
+                return true;
+            }
+        }
+        return false;
+    }
+
+    private static void words(String source) {
+        String[] banned = {"\\bthrow", "\\btry\\b", "\\bcatch\\b", "\\bsynchronized\\b", "\\bassert\\b", "->", "::",
+            "Exact\\b", "\\bdouble\\b", "\\bfloat\\b", "\"", "\\bpackage\\b", "\\bThread\\b", "\\bRandom\\b",
+            "nanoTime", "currentTimeMillis", "static \\{", "\\bequals\\b", "hashCode", "toString", "while \\(true\\)",
+            "for \\(;;", "@"};
+        for (String word : banned) {
+            CHECK.holds("rules 3 to 13: no " + word, !Pattern.compile(word).matcher(source).find());
+        }
+        Matcher imports = Pattern.compile("import ([^;]*);").matcher(source);
+        while (imports.find()) {
+            CHECK.holds("rule 4: " + imports.group(), Set.of("java.util.Arrays", "java.util.ArrayList",
+                "java.util.List").contains(imports.group(1)));
+        }
+        Matcher calls = Pattern.compile("\\b(Math|Arrays|System|Integer|Long)\\.(\\w+)").matcher(source);
+        while (calls.find()) {
+            CHECK.holds("rule 4: " + calls.group(), Set.of("Math.min", "Math.max", "Math.abs", "Arrays.fill",
+                "System.arraycopy").contains(calls.group()));
+        }
+    }
+
+    /** One room holds all calls of a run, so a call itself makes nothing. */
+    private static void objectsOnlyInConstructors(String source) {
+        boolean inConstructor = false;
+        for (String line : source.split("\n")) {
+            if (line.matches("\\s+(public )?[A-Z]\\w*\\([^;]*\\) \\{")) {
+                inConstructor = true;
+            } else if (line.matches("(    |        )\\}")) {
+                inConstructor = false;
+            }
+            CHECK.holds("room: made by a constructor: " + line, inConstructor || !line.matches(".*\\bnew\\b.*"));
+        }
+    }
+
+    private static void methodsAreShort(String source) {
+        int start = -1;
+        String end = "";
+        String[] lines = source.split("\n");
+        for (int i = 0; i < lines.length; i++) {
+            Matcher header = Pattern.compile("( {4}| {8})\\w[\\w\\[\\] ]+\\([^;]*\\) \\{").matcher(lines[i]);
+            if (start < 0 && header.matches()) {
+                start = i;
+                end = header.group(1) + "}";
+            } else if (start >= 0 && lines[i].equals(end)) {
+                CHECK.holds("rule 11: some sixty lines: " + lines[start], i - start < 60);
+                start = -1;
+            }
+        }
+    }
+}
