@@ -28,8 +28,9 @@ public final class RandomRunsTest {
         check.end();
     }
 
+    /** A turn makes one call, or two to four for a FORECAST: 400 turns stay below the 512 calls of the document. */
     private void run(long seed) {
-        for (int i = 0; i < 512 && check.wrong() < 10; i++) {
+        for (int i = 0; i < 400 && check.wrong() < 10; i++) {
             String at = "seed " + seed + " call " + i + ": ";
             int turn = random.nextInt(100);
             if (i < 8 || turn < 20) {
