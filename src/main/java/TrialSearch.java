@@ -69,9 +69,6 @@ public final class TrialSearch {
     }
 
     public long number(long w) {
-        if (w < 0) {
-            return BAD;
-        }
         return space.takeBits(w, space.left) ? space.place(space.left) : NONE;
     }
 

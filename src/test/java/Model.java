@@ -143,13 +143,10 @@ final class Model {
     }
 
     long number(long w) {
-        if (w < 0) {
-            return BAD;
-        }
         Integer[] row = new Integer[names.size()];
         for (int i = 0; i < row.length; i++) {
             if (isThere(i, row)) {
-                row[i] = (int) ((w >> (5 * i)) % 32);
+                row[i] = (int) (w >> (5 * i)) & 31;
                 if (row[i] >= names.get(i).many) {
                     return NONE;
                 }

@@ -106,7 +106,8 @@ public final class RandomRunsTest {
         if (random.nextInt(20) == 0) {
             return random.nextLong();
         }
-        long w = 0;
+        // Bits behind the eighth NAME, the sign among them, belong to none.
+        long w = random.nextBoolean() ? 0 : random.nextLong() << 40;
         for (int i = 0; i < 8; i++) {
             int many = i < model.names.size() ? model.names.get(i).many : 32;
             w |= (long) random.nextInt(random.nextInt(15) == 0 ? 32 : many) << (5 * i);

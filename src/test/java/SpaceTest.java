@@ -13,6 +13,7 @@ public final class SpaceTest {
         valuesInOrder();
         valueRefused();
         numberOfBits();
+        numberBelowZero();
         numberRefused();
         numberUndoesValue();
         distances();
@@ -160,9 +161,33 @@ public final class SpaceTest {
         CHECK.due("5: NAME 0's bits", y.number(1), 21_870_000_000L);
     }
 
+    /** A long's sign is a bit like any other, and behind those of the eighth NAME. */
+    private static void numberBelowZero() {
+        TrialSearch x = new TrialSearch();
+        CHECK.due("5: no NAME, -1", x.number(-1), 0);
+        CHECK.due("5: no NAME, -2^32", x.number(-(1L << 32)), 0);
+        CHECK.due("5: no NAME, least long", x.number(Long.MIN_VALUE), 0);
+        x.name(3, -1, 0);
+        x.name(4, 0, 0b100);
+        CHECK.due("5: -32: VALUE 0, the other not there", x.number(-32), 0);
+        CHECK.due("5: VALUE 1, the other not there", x.number(-32 | 1), 1);
+        CHECK.due("5: VALUE 2, the other has 31", x.number(-32 | 2), NONE);
+        CHECK.due("5: VALUES 2, 3", x.number(-1024 | word(2, 3)), 5);
+        CHECK.due("5: -1: VALUE 31", x.number(-1), NONE);
+        CHECK.due("5: least long", x.number(Long.MIN_VALUE), 0);
+        CHECK.due("5: least long and VALUES", x.number(Long.MIN_VALUE | word(2, 1)), 3);
+        TrialSearch y = new TrialSearch();
+        for (int i = 0; i < 8; i++) {
+            y.name(30, -1, 0);
+        }
+        long behind = -1L << 40;
+        CHECK.due("5: bits behind eight NAMES", y.number(behind), 0);
+        CHECK.due("5: and the greatest", y.number(behind | word(29, 29, 29, 29, 29, 29, 29, 29)), 656_099_999_999L);
+        CHECK.due("5: and VALUE 30 of NAME 7", y.number(behind | word(0, 0, 0, 0, 0, 0, 0, 30)), NONE);
+    }
+
     private static void numberRefused() {
         TrialSearch x = new TrialSearch();
-        CHECK.due("5: below 0, without NAMES", x.number(-1), BAD);
         x.name(3, -1, 0);
         x.name(4, 0, 0b100);
         CHECK.due("5: VALUE 2 of 3", x.number(word(2, 3)), 5);
@@ -170,9 +195,6 @@ public final class SpaceTest {
         CHECK.due("5: VALUE 31", x.number(31), NONE);
         CHECK.due("5: VALUE 4 of 4, there", x.number(word(2, 4)), NONE);
         CHECK.due("5: VALUE 4 of 4, not there", x.number(word(1, 4)), 1);
-        CHECK.due("5: below 0", x.number(-32), BAD);
-        CHECK.due("5: BAD ahead of NONE", x.number(-1), BAD);
-        CHECK.due("5: least long", x.number(Long.MIN_VALUE), BAD);
     }
 
     private static void numberUndoesValue() {
