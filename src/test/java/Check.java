@@ -1,5 +1,8 @@
 /** Counts answers that are not as due and ends a test with exit code 1 if there was one. */
 final class Check {
+    // One broken promise can make thousands of answers wrong; the first ones tell enough.
+    private static final int MOST_PRINTED = 50;
+
     private final String title;
     private int asked = 0;
     private int wrong = 0;
@@ -11,16 +14,21 @@ final class Check {
     void due(String call, long got, long want) {
         asked++;
         if (got != want) {
-            wrong++;
-            System.out.println(title + ": " + call + " answered " + got + ", due is " + want);
+            miss(call + " answered " + got + ", due is " + want);
         }
     }
 
     void holds(String what, boolean is) {
         asked++;
         if (!is) {
-            wrong++;
-            System.out.println(title + ": does not hold: " + what);
+            miss("does not hold: " + what);
+        }
+    }
+
+    private void miss(String text) {
+        wrong++;
+        if (wrong <= MOST_PRINTED) {
+            System.out.println(title + ": " + text);
         }
     }
 

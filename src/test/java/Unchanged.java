@@ -1,0 +1,158 @@
+import java.util.ArrayList;
+import java.util.List;
+
+/**
+ * What is refused changes nothing, nor does a question: two objects of one Scene are compared in all that later calls
+ * show, one of which was spared the call.
+ */
+final class Unchanged {
+    // A Scene has fewer than 200 calls, and one of these makes two at most: all stay below the document's 512.
+    private static final int CALLS_A_PAIR = 140;
+    private static final List<List<Scene.Call>> LATER = later();
+
+    private Unchanged() {
+    }
+
+    /** The call answers what is due, and whatever comes later is as if it had not been made. */
+    static void by(Check check, Scene scene, String text, Scene.Call call, long due) {
+        check.due(text, call.on(scene.play()), due);
+        for (int part = 0; part < LATER.size(); part++) {
+            Counted spared = scene.play();
+            Counted asked = scene.play();
+            call.on(asked);
+            int at = 0;
+            for (Scene.Call later : LATER.get(part)) {
+                check.due(text + ", changes nothing, part " + part + " call " + at, later.on(asked), later.on(spared));
+                at++;
+            }
+        }
+    }
+
+    private static List<List<Scene.Call>> later() {
+        List<List<Scene.Call>> all = new ArrayList<>();
+        List<Scene.Call> shown = new ArrayList<>();
+        showSpace(shown);
+        showTrials(shown);
+        showRounds(shown);
+        showFolds(shown);
+        for (int from = 0; from < shown.size(); from += CALLS_A_PAIR) {
+            all.add(shown.subList(from, Math.min(shown.size(), from + CALLS_A_PAIR)));
+        }
+        all.add(addNames());
+        all.add(addTrials());
+        all.add(scoreAll());
+        all.add(reportAll());
+        all.add(endRound());
+        all.add(List.of(x -> x.halve(), x -> x.round(0), x -> x.round(1), x -> x.round(2), x -> x.round(3)));
+        all.add(useAll());
+        return all;
+    }
+
+    private static void showSpace(List<Scene.Call> shown) {
+        shown.add(x -> x.points());
+        for (int i = 0; i < 12; i++) {
+            int p = i * 5;
+            for (int name = 0; name < 8; name++) {
+                int asked = name;
+                shown.add(x -> x.value(p, asked));
+            }
+            shown.add(x -> x.number(p * 35L));
+            shown.add(x -> x.distance(p, 60 - p));
+        }
+    }
+
+    private static void showTrials(List<Scene.Call> shown) {
+        shown.add(x -> x.best());
+        for (int i = 0; i <= 60; i++) {
+            int t = i;
+            for (int what = 0; what < 5; what++) {
+                int asked = what;
+                shown.add(x -> x.told(t, asked));
+            }
+            shown.add(x -> x.point(t));
+            for (int step = 0; step <= 20; step++) {
+                int asked = step;
+                shown.add(x -> x.reported(t, asked));
+            }
+            shown.add(x -> x.forecast(t, 1, 0));
+            shown.add(x -> x.forecast(t, 3, 0));
+            shown.add(x -> x.forecast(t, 5, 1));
+        }
+    }
+
+    private static void showRounds(List<Scene.Call> shown) {
+        for (int what = 0; what < 4; what++) {
+            int asked = what;
+            shown.add(x -> x.round(asked));
+        }
+        shown.add(x -> x.cost());
+        shown.add(x -> x.plan(81, 3, 2, 0));
+    }
+
+    private static void showFolds(List<Scene.Call> shown) {
+        for (int i = 0; i <= 200; i++) {
+            int row = i;
+            shown.add(x -> x.fold(row, 0));
+            shown.add(x -> x.fold(row, 1));
+            for (int o = 0; o < 10; o++) {
+                int outer = o;
+                for (int what = 0; what < 3; what++) {
+                    int asked = what;
+                    shown.add(x -> x.used(row, outer, asked));
+                }
+            }
+        }
+    }
+
+    private static List<Scene.Call> addNames() {
+        return List.of(x -> x.name(2, -1, 0), x -> x.points(), x -> x.name(3, 0, 2), x -> x.points());
+    }
+
+    private static List<Scene.Call> addTrials() {
+        return List.of(x -> x.point(x.trial(0, 4)), x -> x.point(x.trial(1, 9)), x -> x.point(x.trial(2, 9)),
+            x -> x.point(x.guess(7, 40, 3)), x -> x.trial(0, 0));
+    }
+
+    private static List<Scene.Call> scoreAll() {
+        List<Scene.Call> calls = new ArrayList<>();
+        for (int i = 0; i < 60; i++) {
+            int t = i;
+            calls.add(x -> x.score(t, t, true));
+        }
+        calls.add(x -> x.best());
+        return calls;
+    }
+
+    private static List<Scene.Call> reportAll() {
+        List<Scene.Call> calls = new ArrayList<>();
+        for (int i = 0; i < 60; i++) {
+            int t = i;
+            calls.add(x -> x.report(t, t % 7, 1));
+        }
+        return calls;
+    }
+
+    private static List<Scene.Call> endRound() {
+        List<Scene.Call> calls = new ArrayList<>();
+        for (int i = 0; i < 60; i++) {
+            int t = i;
+            calls.add(x -> x.result(t, t % 7, true));
+        }
+        calls.add(x -> x.halve());
+        calls.add(x -> x.cost());
+        calls.add(x -> x.round(2));
+        return calls;
+    }
+
+    private static List<Scene.Call> useAll() {
+        List<Scene.Call> calls = new ArrayList<>();
+        for (int o = 0; o < 10; o++) {
+            int outer = o;
+            for (int i = 9; i >= -1; i--) {
+                int inner = i;
+                calls.add(x -> x.use(outer, inner));
+            }
+        }
+        return calls;
+    }
+}
