@@ -847,7 +847,8 @@ public final class TrialSearch {
         private void sortIn(long key, int count) {
             int low = 0;
             int high = count;
-            while (low < high) {
+            // Each step halves what is left, and fewer than 2^8 rows are sorted.
+            for (int step = 0; step < ROW_BITS && low < high; step++) {
                 int middle = (low + high) / 2;
                 if (order[middle] < key) {
                     low = middle + 1;

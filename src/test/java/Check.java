@@ -2,6 +2,8 @@
 final class Check {
     // One broken promise can make thousands of answers wrong; the first ones tell enough.
     private static final int MOST_PRINTED = 50;
+    // A test takes a second or two; one that goes on far longer has met a call that does not end.
+    private static final long MOST_MILLISECONDS = 300_000;
 
     private final String title;
     private int asked = 0;
@@ -9,6 +11,19 @@ final class Check {
 
     Check(String title) {
         this.title = title;
+        Thread watch = new Thread(this::endLate);
+        watch.setDaemon(true);
+        watch.start();
+    }
+
+    private void endLate() {
+        try {
+            Thread.sleep(MOST_MILLISECONDS);
+        } catch (InterruptedException e) {
+            return;
+        }
+        System.out.println(title + ": a call does not end");
+        Runtime.getRuntime().halt(1);
     }
 
     void due(String call, long got, long want) {

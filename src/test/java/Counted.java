@@ -1,4 +1,4 @@
-/** A TrialSearch that counts its calls: behind the 512th the document leaves every answer free, so no test goes there. */
+/** A TrialSearch that counts its calls: behind the 512th every answer is free, so no test goes there. */
 final class Counted {
     static final int MOST_CALLS = 512;
 

@@ -1,4 +1,5 @@
 import java.io.IOException;
+import java.lang.reflect.Array;
 import java.lang.reflect.Constructor;
 import java.lang.reflect.Field;
 import java.lang.reflect.Method;
@@ -7,8 +8,12 @@ import java.nio.file.Files;
 import java.nio.file.Path;
 import java.util.ArrayList;
 import java.util.Arrays;
+import java.util.Collections;
+import java.util.IdentityHashMap;
 import java.util.List;
+import java.util.Map;
 import java.util.Set;
+import java.util.TreeMap;
 import java.util.TreeSet;
 import java.util.regex.Matcher;
 import java.util.regex.Pattern;
@@ -24,7 +29,7 @@ public final class LanguageTest {
         "int halve()", "int round(int)", "long cost()", "int plan(int,int,int,int)", "int folds(int,int,int,int)",
         "int fold(int,int)", "int use(int,int)", "int used(int,int,int)");
 
-    public static void main(String[] args) throws IOException {
+    public static void main(String[] args) throws IOException, IllegalAccessException {
         String path = System.getenv().getOrDefault("TRIAL_SEARCH_SOURCE", "src/main/java/TrialSearch.java");
         String source = withoutComments(Files.readString(Path.of(path)));
         face();
@@ -33,7 +38,9 @@ public final class LanguageTest {
         membersOfAll();
         words(source);
         objectsOnlyInConstructors(source);
-        methodsAreShort(source);
+        oneObjectTakesLittleRoom();
+        Map<String, String> methods = methodsAreShort(source);
+        callsEndBelow(methods);
         CHECK.end();
     }
 
@@ -113,8 +120,8 @@ public final class LanguageTest {
     private static void words(String source) {
         String[] banned = {"\\bthrow", "\\btry\\b", "\\bcatch\\b", "\\bsynchronized\\b", "\\bassert\\b", "->", "::",
             "Exact\\b", "\\bdouble\\b", "\\bfloat\\b", "\"", "\\bpackage\\b", "\\bThread\\b", "\\bRandom\\b",
-            "nanoTime", "currentTimeMillis", "static \\{", "\\bequals\\b", "hashCode", "toString", "while \\(true\\)",
-            "for \\(;;", "@"};
+            "nanoTime", "currentTimeMillis", "(?<!import )java\\.", "static \\{", "\\bequals\\b", "hashCode",
+            "toString", "while \\(true\\)", "for \\(;;", "@"};
         for (String word : banned) {
             CHECK.holds("rules 3 to 13: no " + word, !Pattern.compile(word).matcher(source).find());
         }
@@ -143,19 +150,81 @@ public final class LanguageTest {
         }
     }
 
-    private static void methodsAreShort(String source) {
-        int start = -1;
+    /** Even if each of a run's 512 calls made an object, all of them would fit in the room. */
+    private static void oneObjectTakesLittleRoom() throws IllegalAccessException {
+        Set<Object> objects = Collections.newSetFromMap(new IdentityHashMap<>());
+        long parts = countParts(new TrialSearch(), objects);
+        CHECK.holds("room: objects and arrays: " + objects.size(), objects.size() <= 600_000 / 512);
+        CHECK.holds("room: fields and elements: " + parts, parts <= 7_300_000 / 512);
+    }
+
+    private static long countParts(Object one, Set<Object> seen) throws IllegalAccessException {
+        if (one == null || !seen.add(one)) {
+            return 0;
+        }
+        long parts = 0;
+        if (one.getClass().isArray()) {
+            boolean ofObjects = !one.getClass().getComponentType().isPrimitive();
+            for (int i = 0; i < Array.getLength(one); i++) {
+                parts += 1 + (ofObjects ? countParts(Array.get(one, i), seen) : 0);
+            }
+            return parts;
+        }
+        for (Field field : one.getClass().getDeclaredFields()) {
+            if (!Modifier.isStatic(field.getModifiers())) {
+                field.setAccessible(true);
+                parts += 1 + (field.getType().isPrimitive() ? 0 : countParts(field.get(one), seen));
+            }
+        }
+        return parts;
+    }
+
+    /** The text of each method by its name; methods of one name in several classes are put together. */
+    private static Map<String, String> methodsAreShort(String source) {
+        Map<String, String> bodies = new TreeMap<>();
+        String name = "";
         String end = "";
+        int start = -1;
         String[] lines = source.split("\n");
         for (int i = 0; i < lines.length; i++) {
-            Matcher header = Pattern.compile("( {4}| {8})\\w[\\w\\[\\] ]+\\([^;]*\\) \\{").matcher(lines[i]);
+            Matcher header = Pattern.compile("( {4}| {8})(?:[\\w\\[\\]]+ )*(\\w+)\\([^;]*\\) \\{").matcher(lines[i]);
             if (start < 0 && header.matches()) {
                 start = i;
+                name = header.group(2);
                 end = header.group(1) + "}";
             } else if (start >= 0 && lines[i].equals(end)) {
                 CHECK.holds("rule 11: some sixty lines: " + lines[start], i - start < 60);
+                String body = String.join("\n", Arrays.copyOfRange(lines, start + 1, i));
+                bodies.merge(name, body, (a, b) -> a + "\n" + b);
                 start = -1;
             }
         }
+        return bodies;
+    }
+
+    private static void callsEndBelow(Map<String, String> methods) {
+        for (String method : FACE) {
+            String name = method.replaceAll(".* (\\w+)\\(.*", "$1");
+            CHECK.holds("rule 11: found: " + name, methods.containsKey(name));
+            int depth = depth(name, methods, List.of());
+            CHECK.holds("rules 8 and 11: no recursion, at most eight deep: " + name, depth <= 8);
+        }
+    }
+
+    /** How many methods stand open at once below and with this one; far too many, if one calls itself. */
+    private static int depth(String name, Map<String, String> methods, List<String> above) {
+        if (above.contains(name)) {
+            return 1000;
+        }
+        List<String> open = new ArrayList<>(above);
+        open.add(name);
+        int deepest = 0;
+        Matcher calls = Pattern.compile("\\b(\\w+)\\(").matcher(methods.get(name));
+        while (calls.find()) {
+            if (methods.containsKey(calls.group(1))) {
+                deepest = Math.max(deepest, depth(calls.group(1), methods, open));
+            }
+        }
+        return deepest + 1;
     }
 }

@@ -124,7 +124,8 @@ public final class Promise17ResultTest {
     }
 
     private static void theFirstOfSeveral() {
-        refused(Scene.NEW.then(x -> x.trial(0, 0)), "BAD v ahead of no BRACKET", x -> x.result(0, 1_000_001, true), BAD);
+        Scene trial = Scene.NEW.then(x -> x.trial(0, 0));
+        refused(trial, "BAD v ahead of no BRACKET", x -> x.result(0, 1_000_001, true), BAD);
         refused(Scene.BUSY, "BAD v ahead of not IN", x -> x.result(0, -1_000_001, true), BAD);
         refused(Scene.BUSY, "BAD v ahead of one it has", x -> x.result(2, 1_000_001, true), BAD);
         refused(Scene.BUSY, "no BAD v when it fails", x -> x.result(0, 1_000_001, false), NOT);

@@ -11,8 +11,8 @@ final class Scene {
     static final Scene NEW = new Scene();
 
     /** Eight NAMES, five of them under conditions, no TRIALS. */
-    static final Scene EIGHT_NAMES = new Scene().names(3, 4, 2, 5).plus(x -> x.name(2, 0, 0b010), x -> x.name(7, 0, 0b111),
-        x -> x.name(1, -1, 0), x -> x.name(3, 2, 0b01));
+    static final Scene EIGHT_NAMES = new Scene().names(3, 4, 2, 5).plus(x -> x.name(2, 0, 0b010),
+        x -> x.name(7, 0, 0b111), x -> x.name(1, -1, 0), x -> x.name(3, 2, 0b01));
 
     /** Something of everything, and nothing at its end: TRIALS of each STATE, a ROUND half done, a fold TESTED. */
     static final Scene BUSY = new Scene().names(3, 4, 2, 5).busyTrials().busyBracket().busyFolds();
@@ -21,8 +21,9 @@ final class Scene {
     static final Scene FULL = new Scene().fullSpace().fullTrials().fullBracket().fullFolds();
 
     /** A BRACKET that is over with TRIAL 3 left IN it. */
-    static final Scene OVER = new Scene().names(3, 4, 2, 5).grid(5).plus(x -> x.bracket(0, 4, 6, 3), x -> x.result(0, 1, true),
-        x -> x.result(1, 2, true), x -> x.result(2, 0, false), x -> x.result(3, 9, true), x -> x.halve());
+    static final Scene OVER = new Scene().names(3, 4, 2, 5).grid(5).plus(x -> x.bracket(0, 4, 6, 3),
+        x -> x.result(0, 1, true), x -> x.result(1, 2, true), x -> x.result(2, 0, false), x -> x.result(3, 9, true),
+        x -> x.halve());
 
     private final List<Call> calls = new ArrayList<>();
 
