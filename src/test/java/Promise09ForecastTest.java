@@ -70,6 +70,8 @@ public final class Promise09ForecastTest {
     private static void noScoredTrial() {
         asked(Scene.NEW, "no TRIAL, above", x -> x.forecast(0, 1, 0), NONE);
         asked(Scene.NEW, "no TRIAL, below", x -> x.forecast(0, 5, 1), NONE);
+        asked(Scene.NO_SCORES, "TRIALS of each other STATE, above", x -> x.forecast(0, 1, 0), NONE);
+        asked(Scene.NO_SCORES, "TRIALS of each other STATE, below", x -> x.forecast(64, 5, 1), NONE);
         Counted y = Make.trials(4);
         CHECK.due("OPEN ones", y.forecast(0, 1, 0), NONE);
         y.score(0, 3, false);
@@ -186,5 +188,6 @@ public final class Promise09ForecastTest {
         asked(Scene.NEW, "BAD k ahead of NONE", x -> x.forecast(0, 6, 0), BAD);
         asked(Scene.NEW, "BAD side ahead of NONE", x -> x.forecast(0, 1, 2), BAD);
         asked(Scene.NEW, "BAD side ahead of NONE", x -> x.forecast(0, 1, -1), BAD);
+        asked(Scene.NO_SCORES, "BAD POINT ahead of NONE", x -> x.forecast(65, 1, 0), BAD);
     }
 }

@@ -16,6 +16,7 @@ public final class Promise15BestTest {
     private static void noneWithoutScoredTrials() {
         Unchanged.by(CHECK, Scene.NEW, "no TRIALS", x -> x.best(), NONE);
         Unchanged.by(CHECK, Scene.OVER, "OPEN ones", x -> x.best(), NONE);
+        Unchanged.by(CHECK, Scene.NO_SCORES, "TRIALS of each other STATE", x -> x.best(), NONE);
         Counted y = Make.trials(3);
         y.score(0, 9, false);
         CHECK.due("a FAILED one", y.best(), NONE);

@@ -76,6 +76,7 @@ public final class Promise17ResultTest {
         Scene trials = Scene.NEW.then(x -> x.trial(0, 0), x -> x.trial(0, 0));
         refused(trials, "no BRACKET", x -> x.result(0, 1, true), NOT);
         refused(trials, "no BRACKET, failing", x -> x.result(1, 1, false), NOT);
+        refused(Scene.NO_BRACKET, "no BRACKET, of each STATE", x -> x.result(3, 1, true), NOT);
         refused(trials.then(x -> x.bracket(0, 3, 1, 2)), "a refused BRACKET", x -> x.result(0, 1, true), NOT);
     }
 

@@ -124,6 +124,7 @@ public final class Promise18HalveTest {
 
     private static void noBracket() {
         refused(Scene.NEW, "no BRACKET");
+        refused(Scene.NO_BRACKET, "TRIALS and FOLDS, no BRACKET");
         refused(Scene.NEW.then(x -> x.trial(0, 0), x -> x.bracket(0, 2, 1, 2)), "a refused BRACKET");
     }
 

@@ -40,6 +40,7 @@ public final class Promise19RoundTest {
         for (int what = 0; what < 4; what++) {
             int number = what;
             asked(Scene.NEW, "no BRACKET, what " + what, x -> x.round(number), NONE);
+            asked(Scene.NO_BRACKET, "TRIALS and FOLDS, no BRACKET, what " + what, x -> x.round(number), NONE);
         }
         Counted y = Make.trials(2);
         y.bracket(0, 3, 1, 2);

@@ -88,6 +88,7 @@ public final class Promise20CostTest {
 
     private static void askingChangesNothing() {
         Unchanged.by(CHECK, Scene.NEW, "no BRACKET", x -> x.cost(), 0);
+        Unchanged.by(CHECK, Scene.NO_BRACKET, "TRIALS and FOLDS, no BRACKET", x -> x.cost(), 0);
         Unchanged.by(CHECK, Scene.BUSY, "a BRACKET", x -> x.cost(), 90);
         Unchanged.by(CHECK, Scene.OVER, "one that is over", x -> x.cost(), 24);
     }

@@ -17,6 +17,7 @@ public final class Promise22FoldsTest {
 
     private static void refused(String text, Scene.Call call) {
         Unchanged.by(CHECK, Scene.NEW, "without FOLDS, " + text, call, BAD);
+        Unchanged.by(CHECK, Scene.NO_FOLDS, "TRIALS without FOLDS, " + text, call, BAD);
         Unchanged.by(CHECK, Scene.BUSY, text, call, BAD);
     }
 

@@ -40,6 +40,7 @@ public final class Promise23FoldTest {
         Unchanged.by(CHECK, Scene.NEW, "row 0", x -> x.fold(0, 0), BAD);
         Unchanged.by(CHECK, Scene.NEW, "row 0", x -> x.fold(0, 1), BAD);
         Unchanged.by(CHECK, Scene.NEW, "row -1", x -> x.fold(-1, 0), BAD);
+        Unchanged.by(CHECK, Scene.NO_FOLDS, "row 0, with TRIALS", x -> x.fold(0, 0), BAD);
         Counted y = new Counted();
         y.folds(201, 2, 2, 0);
         CHECK.due("refused FOLDS", y.fold(0, 0), BAD);

@@ -56,6 +56,8 @@ public final class Promise24UseTest {
         refused(Scene.NEW, "to choose", x -> x.use(0, 0), BAD);
         refused(Scene.NEW, "to test", x -> x.use(0, -1), BAD);
         refused(Scene.NEW, "OUTER -1", x -> x.use(-1, -1), BAD);
+        refused(Scene.NO_FOLDS, "to choose, with TRIALS", x -> x.use(0, 0), BAD);
+        refused(Scene.NO_FOLDS, "to test, with TRIALS", x -> x.use(0, -1), BAD);
         refused(Scene.NEW.then(x -> x.folds(0, 2, 2, 1)), "refused FOLDS", x -> x.use(0, 0), BAD);
     }
 

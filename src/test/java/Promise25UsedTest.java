@@ -55,6 +55,7 @@ public final class Promise25UsedTest {
         for (int what = 0; what < 3; what++) {
             int number = what;
             asked(Scene.NEW, "what " + what, x -> x.used(0, 0, number), BAD);
+            asked(Scene.NO_FOLDS, "with TRIALS, what " + what, x -> x.used(0, 0, number), BAD);
         }
         asked(Scene.NEW, "row and OUTER -1", x -> x.used(-1, -1, 0), BAD);
         Counted y = new Counted();

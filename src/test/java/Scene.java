@@ -10,12 +10,22 @@ final class Scene {
     /** Nothing has been called. */
     static final Scene NEW = new Scene();
 
-    /** Eight NAMES, five of them under conditions, no TRIALS. */
+    /** Eight NAMES, five of them under conditions, and FOLDS, but no TRIALS. */
     static final Scene EIGHT_NAMES = new Scene().names(3, 4, 2, 5).plus(x -> x.name(2, 0, 0b010),
-        x -> x.name(7, 0, 0b111), x -> x.name(1, -1, 0), x -> x.name(3, 2, 0b01));
+        x -> x.name(7, 0, 0b111), x -> x.name(1, -1, 0), x -> x.name(3, 2, 0b01)).busyFolds();
 
     /** Something of everything, and nothing at its end: TRIALS of each STATE, a ROUND half done, a fold TESTED. */
     static final Scene BUSY = new Scene().names(3, 4, 2, 5).busyTrials().busyBracket().busyFolds();
+
+    /** BUSY without a BRACKET. */
+    static final Scene NO_BRACKET = new Scene().names(3, 4, 2, 5).busyTrials().busyFolds();
+
+    /** BUSY without FOLDS. */
+    static final Scene NO_FOLDS = new Scene().names(3, 4, 2, 5).busyTrials().busyBracket();
+
+    /** No SCORED TRIAL, but OPEN ones, one that FAILED (4) and one PRUNED (1), a BRACKET and FOLDS. */
+    static final Scene NO_SCORES = new Scene().names(3, 4, 2, 5).grid(8).plus(x -> x.report(3, 5, 0),
+        x -> x.report(0, 6, 0), x -> x.report(1, 4, 1), x -> x.score(4, 9, false)).busyBracket().busyFolds();
 
     /** As many NAMES, TRIALS, REPORTS and rows as there can be. */
     static final Scene FULL = new Scene().fullSpace().fullTrials().fullBracket().fullFolds();

@@ -40,29 +40,49 @@ final class Unchanged {
         }
         all.add(addNames());
         all.add(addTrials());
+        all.add(showNewTrial());
         all.add(scoreAll());
         all.add(reportAll());
         all.add(endRound());
         all.add(List.of(x -> x.halve(), x -> x.round(0), x -> x.round(1), x -> x.round(2), x -> x.round(3)));
+        all.add(newBracket());
         all.add(useAll());
+        all.add(newFolds());
         return all;
     }
 
+    /** POINTS from the first to the last, and each NAME's VALUES up to the first that is none. */
     private static void showSpace(List<Scene.Call> shown) {
         shown.add(x -> x.points());
-        for (int i = 0; i < 12; i++) {
-            int p = i * 5;
+        for (int i = 0; i <= 12; i++) {
+            int part = i;
             for (int name = 0; name < 8; name++) {
                 int asked = name;
-                shown.add(x -> x.value(p, asked));
+                shown.add(x -> x.value(pointAt(x, part), asked));
             }
-            shown.add(x -> x.number(p * 35L));
-            shown.add(x -> x.distance(p, 60 - p));
+            shown.add(x -> x.distance(pointAt(x, part), 0));
+        }
+        for (int name = 0; name < 8; name++) {
+            for (int v = 0; v < 32; v++) {
+                long w = Make.word(2, 1) & ~(31L << (5 * name)) | (long) v << (5 * name);
+                shown.add(x -> x.number(w));
+            }
         }
     }
 
+    private static long pointAt(Counted x, int part) {
+        return (x.points() - 1) * part / 12;
+    }
+
+    /** FORECASTS first, as they look at what no other call shows: where the SCORED TRIALS are. */
     private static void showTrials(List<Scene.Call> shown) {
         shown.add(x -> x.best());
+        for (int i = 0; i <= 60; i++) {
+            int p = i;
+            shown.add(x -> x.forecast(p, 1, 0));
+            shown.add(x -> x.forecast(p, 3, 0));
+            shown.add(x -> x.forecast(p, 5, 1));
+        }
         for (int i = 0; i <= 60; i++) {
             int t = i;
             for (int what = 0; what < 5; what++) {
@@ -74,9 +94,6 @@ final class Unchanged {
                 int asked = step;
                 shown.add(x -> x.reported(t, asked));
             }
-            shown.add(x -> x.forecast(t, 1, 0));
-            shown.add(x -> x.forecast(t, 3, 0));
-            shown.add(x -> x.forecast(t, 5, 1));
         }
     }
 
@@ -102,6 +119,7 @@ final class Unchanged {
                 }
             }
         }
+        shown.add(x -> x.used(0, 10, 0));
     }
 
     private static List<Scene.Call> addNames() {
@@ -113,6 +131,17 @@ final class Unchanged {
             x -> x.point(x.guess(7, 40, 3)), x -> x.trial(0, 0));
     }
 
+    private static List<Scene.Call> showNewTrial() {
+        List<Scene.Call> calls = new ArrayList<>();
+        for (int what = 0; what < 5; what++) {
+            int asked = what;
+            calls.add(x -> x.told(x.trial(0, 4), asked));
+        }
+        calls.add(x -> x.reported(x.trial(0, 4), 0));
+        calls.add(x -> x.report(x.trial(0, 4), 7, 1));
+        return calls;
+    }
+
     private static List<Scene.Call> scoreAll() {
         List<Scene.Call> calls = new ArrayList<>();
         for (int i = 0; i < 60; i++) {
@@ -120,6 +149,10 @@ final class Unchanged {
             calls.add(x -> x.score(t, t, true));
         }
         calls.add(x -> x.best());
+        for (int i = 0; i <= 60; i++) {
+            int p = i;
+            calls.add(x -> x.forecast(p, 1, 0));
+        }
         return calls;
     }
 
@@ -144,11 +177,33 @@ final class Unchanged {
         return calls;
     }
 
+    private static List<Scene.Call> newBracket() {
+        return List.of(x -> x.trial(0, 1), x -> x.trial(0, 2), x -> x.bracket(0, 2, 5, 3), x -> x.round(0),
+            x -> x.round(1), x -> x.round(2), x -> x.round(3), x -> x.cost(), x -> x.told(0, 3), x -> x.told(2, 4),
+            x -> x.result(0, 1, true), x -> x.result(1, 2, true), x -> x.halve(), x -> x.round(2), x -> x.cost());
+    }
+
+    private static List<Scene.Call> newFolds() {
+        List<Scene.Call> calls = new ArrayList<>();
+        calls.add(x -> x.folds(30, 4, 3, 7));
+        calls.add(x -> x.use(0, 2));
+        calls.add(x -> x.use(0, -1));
+        for (int i = 0; i <= 30; i++) {
+            int row = i;
+            calls.add(x -> x.fold(row, 0) * 10 + x.fold(row, 1));
+            for (int what = 0; what < 3; what++) {
+                int asked = what;
+                calls.add(x -> x.used(row, 0, asked));
+            }
+        }
+        return calls;
+    }
+
     private static List<Scene.Call> useAll() {
         List<Scene.Call> calls = new ArrayList<>();
         for (int o = 0; o < 10; o++) {
             int outer = o;
-            for (int i = 9; i >= -1; i--) {
+            for (int i = 10; i >= -1; i--) {
                 int inner = i;
                 calls.add(x -> x.use(outer, inner));
             }
