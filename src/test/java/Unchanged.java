@@ -40,7 +40,7 @@ final class Unchanged {
         }
         all.add(addNames());
         all.add(addTrials());
-        all.add(showNewTrial());
+        all.add(showNewTrials());
         all.add(scoreAll());
         all.add(reportAll());
         all.add(endRound());
@@ -131,14 +131,20 @@ final class Unchanged {
             x -> x.point(x.guess(7, 40, 3)), x -> x.trial(0, 0));
     }
 
-    private static List<Scene.Call> showNewTrial() {
+    /** The new TRIALS are 0 to 2 where there was none, 8 to 10 in most Scenes. */
+    private static List<Scene.Call> showNewTrials() {
         List<Scene.Call> calls = new ArrayList<>();
-        for (int what = 0; what < 5; what++) {
-            int asked = what;
-            calls.add(x -> x.told(x.trial(0, 4), asked));
+        for (int i = 0; i < 3; i++) {
+            calls.add(x -> x.trial(0, 4));
         }
-        calls.add(x -> x.reported(x.trial(0, 4), 0));
-        calls.add(x -> x.report(x.trial(0, 4), 7, 1));
+        for (int t : new int[] {0, 1, 2, 8, 9, 10}) {
+            for (int what = 0; what < 5; what++) {
+                int asked = what;
+                calls.add(x -> x.told(t, asked));
+            }
+            calls.add(x -> x.reported(t, 0));
+            calls.add(x -> x.report(t, 7, 1));
+        }
         return calls;
     }
 
@@ -151,7 +157,7 @@ final class Unchanged {
         calls.add(x -> x.best());
         for (int i = 0; i <= 60; i++) {
             int p = i;
-            calls.add(x -> x.forecast(p, 1, 0));
+            calls.add(x -> x.forecast(p, 2, 0));
         }
         return calls;
     }
