@@ -2,6 +2,7 @@ import java.io.IOException;
 import java.lang.reflect.Array;
 import java.lang.reflect.Constructor;
 import java.lang.reflect.Field;
+import java.lang.reflect.InvocationTargetException;
 import java.lang.reflect.Method;
 import java.lang.reflect.Modifier;
 import java.nio.file.Files;
@@ -9,9 +10,11 @@ import java.nio.file.Path;
 import java.util.ArrayList;
 import java.util.Arrays;
 import java.util.Collections;
+import java.util.Comparator;
 import java.util.IdentityHashMap;
 import java.util.List;
 import java.util.Map;
+import java.util.Random;
 import java.util.Set;
 import java.util.TreeMap;
 import java.util.TreeSet;
@@ -39,6 +42,7 @@ public final class LanguageTest {
         words(source);
         objectsOnlyInConstructors(source);
         oneObjectTakesLittleRoom();
+        noCallThrows();
         Map<String, String> methods = methodsAreShort(source);
         callsEndBelow(methods);
         CHECK.end();
@@ -177,6 +181,52 @@ public final class LanguageTest {
             }
         }
         return parts;
+    }
+
+    /** Any arguments in any state, behind the 512th call too, where the answers are free. */
+    private static void noCallThrows() throws IllegalAccessException {
+        Method[] face = publicMethods();
+        for (int seed = 0; seed < 60; seed++) {
+            Random random = new Random(seed);
+            TrialSearch x = new TrialSearch();
+            String call = "";
+            try {
+                for (int i = 0; i < 3000; i++) {
+                    Method method = face[random.nextInt(face.length)];
+                    if (i < 900 * (seed % 3) && method.getName().matches("trial|guess")) {
+                        // TRIALS come late in most runs, so that THE SPACE gets all its NAMES first.
+                        continue;
+                    }
+                    Object[] arguments = anyArguments(method, random, 1 + seed % 8);
+                    call = method.getName() + Arrays.toString(arguments);
+                    method.invoke(x, arguments);
+                }
+                CHECK.holds("rule 7: no call throws, seed " + seed, true);
+            } catch (InvocationTargetException e) {
+                CHECK.holds("rule 7: seed " + seed + ", " + call + " throws " + e.getCause(), false);
+            }
+        }
+    }
+
+    /** In a fixed order, so that a seed always makes the same calls. */
+    private static Method[] publicMethods() {
+        Method[] methods = Arrays.stream(TrialSearch.class.getDeclaredMethods())
+            .filter(method -> Modifier.isPublic(method.getModifiers())).toArray(Method[]::new);
+        Arrays.sort(methods, Comparator.comparing(Method::getName));
+        return methods;
+    }
+
+    /** Small kinds fill an object, great ones try what is outside; now and then a number is any of its type. */
+    private static Object[] anyArguments(Method method, Random random, int kinds) {
+        Class<?>[] types = method.getParameterTypes();
+        Object[] arguments = new Object[types.length];
+        for (int i = 0; i < types.length; i++) {
+            int bits = random.nextInt(12) == 0 ? 64 : 2 + random.nextInt(kinds);
+            long number = (random.nextLong() >> (64 - bits)) + (bits < 64 ? 1L << (bits - 2) : 0);
+            arguments[i] = types[i] == boolean.class ? (Object) (number % 2 == 0)
+                : types[i] == long.class ? (Object) number : (Object) (int) number;
+        }
+        return arguments;
     }
 
     /** The text of each method by its name; methods of one name in several classes are put together. */

@@ -10,7 +10,7 @@ public final class RandomRunsTest {
 
     private final Random random;
     private final Check check;
-    private final TrialSearch real = new TrialSearch();
+    private final Counted real = new Counted();
     private final Model model = new Model();
     private final int kind;
 
